@@ -142,7 +142,7 @@ public final class ForkStore {
 
     public int length(int reader) {
         Reader found = openReaderOrNull(reader);
-        return found == null ? NONE : found.bytesCountHere();
+        return found == null ? NONE : found.sizeHere();
     }
 
     public int value(int reader) {
@@ -164,11 +164,8 @@ public final class ForkStore {
     }
 
     private static long highestBytes(long w, int n) {
-        // A shift by 64 would shift by 0 and leave every byte.
-        if (n <= 0) {
-            return 0L;
-        }
-        return n >= MOST_BYTES ? w : w & (-1L << (BITS_OF_A_BYTE * (MOST_BYTES - n)));
+        // For no bytes the shift would be by 64, which Java takes for 0 and leaves every byte.
+        return n == 0 ? 0L : w & (-1L << (BITS_OF_A_BYTE * (MOST_BYTES - n)));
     }
 
     private static int bytesInCommon(long a, int sizeOfA, long b, int sizeOfB) {
@@ -241,7 +238,7 @@ public final class ForkStore {
             return found;
         }
 
-        /** The size of the fork between the key at a place and the one behind it. */
+        /** Neighbours differ, so their part in common is a fork: the answer is its length in bytes. */
         int forkBehind(int place) {
             if (!isPlace(place) || !isPlace(place + 1)) {
                 return NONE;
@@ -382,7 +379,7 @@ public final class ForkStore {
             return seen.wordAt(place);
         }
 
-        int bytesCountHere() {
+        int sizeHere() {
             return seen.sizeAt(place);
         }
 

@@ -10,7 +10,8 @@ public final class ModelTest {
     private static final int CALLS = 512;
     private static final int RUNS_OF_A_KIND = 100;
     private static final int ENOUGH_WRONG = 20;
-    private static final int[] WRONG = {-1, 9, 100, Integer.MIN_VALUE, Integer.MAX_VALUE};
+    // Wrong as a reader, and all but the 3 as a size too.
+    private static final int[] WRONG = {-1, 3, 9, 100, Integer.MIN_VALUE, Integer.MAX_VALUE};
 
     /** Which bytes and sizes the keys of a run have: each kind brings out other shapes. */
     private enum Kind {
