@@ -43,6 +43,9 @@ public final class FaceTest {
             addIfSeen(seen, method, method.toGenericString());
         }
         Due due = new Due();
+        due.is("what the class extends", Object.class, () -> ForkStore.class.getSuperclass());
+        due.is("what the class implements", 0, () -> ForkStore.class.getInterfaces().length);
+        due.is("private methods named as public ones", new TreeSet<String>(), FaceTest::namesOfBothKinds);
         due.is("the face", new TreeSet<>(Arrays.asList(FACE)), () -> seen);
         due.is("NONE", -1, () -> ForkStore.NONE);
         due.is("the class", "public final", () -> Modifier.toString(ForkStore.class.getModifiers()));
@@ -52,6 +55,17 @@ public final class FaceTest {
             due.is(inside + " is hidden and static", true, () -> hidden && Modifier.isStatic(modifiers));
         }
         due.end();
+    }
+
+    /** LANGUAGE.md, rule 1: no private method bears the name of a public one. */
+    private static TreeSet<String> namesOfBothKinds() {
+        TreeSet<String> hidden = new TreeSet<>();
+        TreeSet<String> seen = new TreeSet<>();
+        for (Method method : ForkStore.class.getDeclaredMethods()) {
+            (Modifier.isPrivate(method.getModifiers()) ? hidden : seen).add(method.getName());
+        }
+        hidden.retainAll(seen);
+        return hidden;
     }
 
     private static void addIfSeen(TreeSet<String> seen, Member member, String text) {
