@@ -73,11 +73,13 @@ public final class LastCallTest {
             int r = reader;
             Counted c = new Counted();
             c.fill();
-            for (int i = 0; c.hasRoomFor(6); i++) {
+            for (int i = 0; c.hasRoomFor(8); i++) {
                 int value = -i;
                 c.make("put", false, () -> c.x.put(Edges.fullKey(0), 1, value));
                 c.make("open", true, () -> c.x.open(r));
                 c.make("next", true, () -> c.x.next(r));
+                c.make("key", Edges.fullKey(0), () -> c.x.key(r));
+                c.make("length", 1, () -> c.x.length(r));
                 c.make("value", value, () -> c.x.value(r));
                 c.make("close", true, () -> c.x.close(r));
             }
